@@ -240,7 +240,7 @@ public final class SleepRoads {
         if (!isMinute(minute)) {
             return OUTSIDE;
         }
-        return readings.isFull() ? FULL : readings.add(a, minute, p);
+        return readings.add(a, minute, p);
     }
 
     public int back(int k) {
@@ -828,10 +828,6 @@ public final class SleepRoads {
 
         int howMany() {
             return count;
-        }
-
-        boolean isFull() {
-            return count >= MOST_READINGS;
         }
 
         void keepFirst(int n) {

@@ -279,6 +279,7 @@ public final class PromisesTest {
         Due.is("minute 61", x.free(61), OUTSIDE);
         Due.is("minute -1", x.free(-1), OUTSIDE);
         Due.is("none is free", Due.townOf("z3;s00;s11;m20/000").free(0), 0);
+        Due.is("the fourth", Due.townOf("z4;s00;s00;s00;s20/0000").free(60), Due.set(1, 3));
     }
 
     // Promise 10
@@ -322,6 +323,10 @@ public final class PromisesTest {
         Due.is("he comes upon him", y.walk(1, 0, 0, 4, 1, 1), 0);
         Due.is("where he was is free", y.walk(4, 0, 0, 0, 1, 0), 0);
         Due.is("back over 0", y.walk(4, 0, 0, 3, 1, 0), 3);
+        SleepRoads four = Due.townOf("z5;s40;s40;s40;s20/00000");
+        Due.row(four, 0, 0, 1);
+        Due.is("the fourth is in the way", four.walk(1, 0, 0, 0, 1, 1), 0);
+        Due.is("the fourth is there", four.walk(2, 0, 0, 0, 0, 0), STATE);
         SleepRoads z = Due.townOf("z3;s10/000");
         Due.row(z, 0, 2, 2, 1);
         Due.is("back behind 0, on from the last", z.walk(0, 0, 2, 0, 2, 0), 0);
@@ -352,6 +357,7 @@ public final class PromisesTest {
         Due.row(x, 0, 0, 2, 0, 3, -1);
         Due.is("no act, behind a wrong one", x.walk(1, 0, 0, 0, 3, 1), OUTSIDE);
         Due.is("no act -1", x.walk(1, 0, 0, 3, 1, 0), OUTSIDE);
+        Due.is("no act behind its cells", x.walk(2, 0, 0, 1, 1, 0), 2);
         Due.is("fault is none then", x.fault(), 0);
     }
 
@@ -380,9 +386,34 @@ public final class PromisesTest {
         SleepRoads z = Due.townOf("z8;s00;s40/00000000");
         Due.is("shut in", z.soonest(1, 5, -1), NONE);
         Due.is("within", z.soonest(1, 3, -1), 2);
-        SleepRoads w = Due.townOf("z8;s00/00000000");
-        w.stride(0, 3);
-        Due.is("waiting comes first", w.soonest(5, 4, 0), 2);
+        SleepRoads ties = Due.townOf("z4;m00/0000");
+        Due.is("either way round", ties.soonest(1, 3, -1), 2);
+        Due.is("on comes before back", ties.soonest(1, 3, 0), 1);
+        Due.is("on comes before back", ties.soonest(1, 3, 1), 1);
+        Due.is("staying comes before both", x.soonest(3, 1, 0), 0);
+        SleepRoads long35 = Due.townOf("z7;r40;r10;r20;r60/0000000");
+        Due.is("a long way", long35.soonest(0, 1, -1), 35);
+        Due.is("no more acts", long35.soonest(0, 1, 35), NONE);
+        isWalkOfSoonest(long35, 0, 1, 35);
+        isWalkOfSoonest(x, 2, 5, 5);
+        isWalkOfSoonest(z, 1, 3, 2);
+        SleepRoads four = Due.townOf("z5;s40;s40;s40;s20/00000");
+        Due.is("the fourth is in the way", four.soonest(1, 3, -1), NONE);
+        Due.is("the fourth is there", four.soonest(2, 3, -1), STATE);
+        SleepRoads chased = Due.townOf("z9;s60;s60;s60;s82/000000000");
+        Due.is("he must wait for the fourth", chased.soonest(1, 3, -1), 3);
+        Due.is("but not where the fourth comes", chased.soonest(1, 3, 0), 1);
+        Due.is("but there", chased.soonest(1, 3, 1), 0);
+    }
+
+    /** Its ACTS, told as a walk, come there and are not wrong. */
+    private static void isWalkOfSoonest(SleepRoads x, int from, int to, int minutes) {
+        int[] acts = new int[minutes];
+        for (int k = 0; k < minutes; k++) {
+            acts[k] = x.soonest(from, to, k);
+        }
+        Due.row(x, 0, 0, acts);
+        Due.is("the soonest as a walk", x.walk(from, 0, 0, 0, minutes, 0), to);
     }
 
     // Promise 13
@@ -398,6 +429,8 @@ public final class PromisesTest {
         Due.is("there is none", x.steer(0, 1, 2), NONE);
         Due.is("in minute 0 his own", x.steer(0, 0, 0), 2);
         Due.is("in minute 0 nowhere else", x.steer(0, 1, 0), NONE);
+        Due.is("0 is his own", Due.townOf(STILL).steer(0, 0, 0), 0);
+        Due.is("3 is nearer", Due.townOf("z3;s03/000").steer(0, 0, 1), 3);
         Due.is("the last minute", x.steer(0, 0, 60), 2);
         Due.is("minute 61", x.steer(0, 0, 61), OUTSIDE);
         Due.is("minute -1", x.steer(0, 0, -1), OUTSIDE);
@@ -415,8 +448,7 @@ public final class PromisesTest {
         Due.is("he counts once", Due.townOf("z5;s20;s40;s40/00000").guard(), 4);
         Due.is("nobody at 0", Due.townOf("z5;s30/00000").guard(), 3);
         Due.is("no town", new SleepRoads().guard(), STATE);
-        // In minute 60 he has gone 60 * 3 = 180, that is 0 of 9; but 3 and 6, too.
-        Due.is("every third", Due.townOf("z9;s13;s70/000000000").guard(), 7);
+        Due.is("he comes to every third only", Due.townOf("z9;s13;s70/000000000").guard(), 7);
     }
 
     // Promise 15
@@ -435,6 +467,13 @@ public final class PromisesTest {
         Due.is("outside comes first", x.reading(0, 61, 0), OUTSIDE);
         Due.is("unknown comes first", x.reading(3, 0, 0), UNKNOWN);
         Due.is("eight are there", x.many(3), 8);
+        SleepRoads y = Due.townOf(STILL);
+        for (int k = 0; k < 7; k++) {
+            y.reading(0, k, 0);
+        }
+        Due.is("seven are so", y.starts(0), Due.set(0));
+        y.reading(0, 7, 1);
+        Due.is("the eighth isn't", y.starts(0), 0);
         Due.is("one goes", x.back(1), 7);
         Due.is("its number again", x.reading(0, 0, 0), 7);
     }
