@@ -41,6 +41,11 @@ final class Due {
         return x;
     }
 
+    /** Numbers that are not 0 .. last: the nearest ones and the farthest. */
+    static int[] beside(int last) {
+        return new int[] {-1, last + 1, Integer.MIN_VALUE, Integer.MAX_VALUE};
+    }
+
     /** A set told by its numbers. */
     static int set(int... numbers) {
         int set = 0;

@@ -28,8 +28,10 @@ public final class LanguageTest {
         "int trace()", "int fault()", "int many(int)", "int UNKNOWN", "int OUTSIDE", "int STATE", "int FULL",
         "int NONE", "long LOST",
     };
-    private static final String[] LIBRARY = {"Arrays.fill", "System.arraycopy", "Math.abs", "Math.min", "Math.max",
-        "Long.MIN_VALUE", "java.util.Arrays"};
+    /** Rule 4, as far as a name and a dot can tell it. */
+    private static final Pattern LIBRARY = Pattern.compile("java\\.util\\.(Arrays|ArrayList|List|Iterator)"
+        + "|String|StringBuilder|Integer|ArrayList|List|List\\.of|Iterator|Iterable|Comparable|System\\.arraycopy"
+        + "|Arrays\\.(copyOf|copyOfRange|fill)|(Integer|Long|Math)\\.\\w+(?<!Exact)");
 
     private LanguageTest() {
     }
@@ -40,8 +42,8 @@ public final class LanguageTest {
         face();
         classes();
         noneOf(code, "\\b(throw|throws|try|catch|finally|synchronized|assert|volatile|native|package)\\b");
-        noneOf(code, "\\b(equals|hashCode|toString|Object|String|Random|Thread|var)\\b");
-        noneOf(code, "->|::|@|\\bstatic\\s*\\{|\\bextends\\b|\\bimplements\\b");
+        noneOf(code, "\\b(hashCode|Object|Random|Thread|var)\\b");
+        noneOf(code, "->|::|\\bstatic\\s*\\{");
         library(code);
         methodsAreShort(code);
         Due.finish("LanguageTest");
@@ -89,9 +91,6 @@ public final class LanguageTest {
         Due.is("at most some twelve classes", all.size() <= 11 ? 1 : 0, 1);
         for (Class<?> inside : all) {
             Due.is("static: " + inside, Modifier.isStatic(inside.getModifiers()) ? 1 : 0, 1);
-            for (Method method : inside.getDeclaredMethods()) {
-                Due.is("a public one's name: " + method, face.contains(method.getName()) ? 1 : 0, 0);
-            }
         }
         all.add(SleepRoads.class);
         for (Class<?> each : all) {
@@ -102,9 +101,9 @@ public final class LanguageTest {
                 Due.is("static and not final: " + field, staticVariable ? 1 : 0, 0);
             }
             Due.is("at most some twenty fields: " + each, fields <= 20 ? 1 : 0, 1);
-            Set<String> names = new HashSet<>();
             for (Method method : each.getDeclaredMethods()) {
-                Due.is("told twice: " + method, names.add(method.getName()) ? 0 : 1, 0);
+                boolean ofTheFace = each == SleepRoads.class && Modifier.isPublic(method.getModifiers());
+                Due.is("a public one's name: " + method, !ofTheFace && face.contains(method.getName()) ? 1 : 0, 0);
                 Due.is("at most seven parameters: " + method, method.getParameterCount() <= 7 ? 1 : 0, 1);
             }
         }
@@ -123,13 +122,12 @@ public final class LanguageTest {
     /** Whatever is told with a capital and a dot must be of the library that is listed, or a class of its own. */
     private static void library(String code) {
         Matcher matcher = Pattern.compile("\\b(?:java\\.[a-z.]*)?([A-Z][a-z]\\w*)(?:\\.\\w+)?").matcher(code);
-        Set<String> allowed = new HashSet<>(Arrays.asList(LIBRARY));
         Set<String> own = new HashSet<>(Arrays.asList("SleepRoads"));
         for (Class<?> inside : SleepRoads.class.getDeclaredClasses()) {
             own.add(inside.getSimpleName());
         }
         while (matcher.find()) {
-            boolean listed = own.contains(matcher.group(1)) || allowed.contains(matcher.group());
+            boolean listed = own.contains(matcher.group(1)) || LIBRARY.matcher(matcher.group()).matches();
             Due.is("of the library: " + matcher.group(), listed ? 1 : 0, 1);
         }
         for (char sign : code.toCharArray()) {
@@ -154,6 +152,6 @@ public final class LanguageTest {
             longest = Math.max(longest, end - k + 1);
         }
         Due.is("methods were found", longest > 10 ? 1 : 0, 1);
-        Due.is("no method is longer than forty lines", longest <= 40 ? 1 : 0, 1);
+        Due.is("no method is longer than sixty lines", longest <= 60 ? 1 : 0, 1);
     }
 }

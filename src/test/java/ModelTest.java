@@ -37,7 +37,10 @@ public final class ModelTest {
 
     private void due(String call, long got, long want) {
         calls++;
-        Due.is("run " + run + ", call " + calls + ": " + call, got, want);
+        // What an object answers to its 513th call is free.
+        if (calls <= CALLS) {
+            Due.is("run " + run + ", call " + calls + ": " + call, got, want);
+        }
     }
 
     private void play() {
